@@ -370,7 +370,7 @@ public final class GasNominations {
             return NONE;
         }
         schedule.make(pipe);
-        int scheduled = schedule.scheduled[nomination];
+        int scheduled = schedule.of(nomination);
         int delivered = pipe.delivered(nomination, scheduled);
         switch (what) {
             case 0:
@@ -445,7 +445,7 @@ public final class GasNominations {
             return NONE;
         }
         schedule.make(pipe);
-        int others = schedule.inAll() - schedule.scheduled[nomination];
+        int others = schedule.inAll() - schedule.of(nomination);
         trial.become(pipe);
         trial.nominations.drop(nomination);
         schedule.make(trial);
@@ -503,7 +503,7 @@ public final class GasNominations {
             return NONE;
         }
         schedule.makeOfOneClass(pipe);
-        return schedule.scheduled[nomination];
+        return schedule.of(nomination);
     }
 
     public int nearest(int to, int much, int what) {
@@ -569,7 +569,7 @@ public final class GasNominations {
             }
         }
         schedule.make(trial);
-        return schedule.scheduled[nomination];
+        return schedule.of(nomination);
     }
 
     public int worst() {
