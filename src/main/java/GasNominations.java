@@ -1342,11 +1342,13 @@ public final class GasNominations {
         private static final int NOT_AS_TOLD = 2;
         private static final int TOO_MANY = 3;
         private static final int PLACE = 8;
+        private static final int FAR_ABOVE = 1000000;
 
         final Tape tape = new Tape();
         final Pipe pipe = new Pipe();
         private int at = 0;
         private int wordAt = 0;
+        private int numberAt = 0;
         private int fault = NO_FAULT;
 
         int read() {
@@ -1405,28 +1407,21 @@ public final class GasNominations {
                 fail(at, CANNOT_STAND);
                 return least;
             }
-            int start = at;
+            numberAt = at;
             int number = 0;
             while (at < tape.length && isDigit(tape.at(at))) {
                 // far above every bound it need not grow any more
-                number = Math.min(number * 10 + tape.at(at) - '0', SIGNED);
+                number = Math.min(number * 10 + tape.at(at) - '0', FAR_ABOVE);
                 at++;
             }
-            if (!within(number, least, most)) {
-                fail(start, NOT_AS_TOLD);
-                return least;
-            }
+            mustBe(within(number, least, most));
             return number;
         }
 
-        private int readPointNumber(boolean in) {
-            skipBlanks();
-            int start = at;
-            int point = readNumber(0, pipe.points.count - 1);
-            if (!(in ? pipe.isIn(point) : pipe.isOut(point))) {
-                fail(start, NOT_AS_TOLD);
+        private void mustBe(boolean asTold) {
+            if (!asTold) {
+                fail(numberAt, NOT_AS_TOLD);
             }
-            return point;
         }
 
         private void readHubs() {
@@ -1515,8 +1510,16 @@ public final class GasNominations {
         private void readNomination(boolean hasFrom, boolean hasTo) {
             failIfFull(pipe.nominations);
             int shipper = readNumber(0, pipe.shippers.count - 1);
-            int from = hasFrom ? readPointNumber(true) : NONE;
-            int to = hasTo ? readPointNumber(false) : NONE;
+            int from = NONE;
+            int to = NONE;
+            if (hasFrom) {
+                from = readNumber(0, pipe.points.count - 1);
+                mustBe(pipe.isIn(from));
+            }
+            if (hasTo) {
+                to = readNumber(0, pipe.points.count - 1);
+                mustBe(pipe.isOut(to));
+            }
             int n = readNumber(0, MOST);
             if (fault == NO_FAULT) {
                 pipe.addNomination(shipper, from, to, n);
