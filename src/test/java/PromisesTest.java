@@ -3,9 +3,7 @@ public final class PromisesTest {
     private static final int NONE = GasNominations.NONE;
     private static final int NO = -2000000000;
 
-    /** Scheduled: 50 (firm; the rest is cut on segment 0), 50 (cut there), 30 (cut by the limit), 10. */
-    private static final String PIPE = "hubs 3;segment 0 100 50;segment 1 80 20;in 0 200;in 2 90;out 1 70;out 2 60;"
-        + "shipper 50 2 10 30;shipper 0 1 5 40;nom 0 0 3 60;nom 1 0 2 70;park 0 1 40;loan 1 3 10;price 3 10";
+    private static final String PIPE = Pipes.TEXT;
 
     private static final Check CHECK = new Check("promises");
 
@@ -73,23 +71,15 @@ public final class PromisesTest {
     }
 
     private static GasNominations pipe() {
-        return Texts.told(PIPE);
+        return Pipes.plain();
     }
 
-    /** Behind one day: balances -10 and 51, parked 30 and -10. */
     private static GasNominations swung() {
-        GasNominations x = pipe();
-        x.swing(0, 10);
-        x.swing(1, -7);
-        x.swing(2, -99);
-        x.swing(3, 25);
-        return x;
+        return Pipes.swung();
     }
 
     private static GasNominations booked() {
-        GasNominations x = swung();
-        x.day();
-        return x;
+        return Pipes.booked();
     }
 
     private static void scheduled(String what, String text, int... want) {
